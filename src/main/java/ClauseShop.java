@@ -42,7 +42,7 @@ public final class ClauseShop {
     private static final class Contract {
         /** By clause; null where the contract has no item. */
         final Version[] items = new Version[CLAUSES];
-        /** By side and clause. */
+        /** By side and clause; they mean nothing where there is no item, and bringIn sets both of them. */
         final int[][] marks = new int[2][CLAUSES];
         final boolean[] signed = new boolean[2];
         /** By side: how many of its duties are breached and not settled, and the sum of their penalties. */
@@ -73,14 +73,8 @@ public final class ClauseShop {
             marks[side][clause] = mark;
             loseSignatures();
             if (marks[0][clause] != MARK_IN && marks[1][clause] != MARK_IN) {
-                takeOut(clause);
+                items[clause] = null;
             }
-        }
-
-        void takeOut(int clause) {
-            items[clause] = null;
-            marks[0][clause] = MARK_NONE;
-            marks[1][clause] = MARK_NONE;
         }
 
         /** The clauses that have items, as a sum of 2 to the power of each. */

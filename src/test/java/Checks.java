@@ -27,9 +27,16 @@ final class Checks {
         try {
             call.run();
         } catch (RuntimeException e) {
-            got = e.getClass();
+            got = kindOf(e);
         }
         equal(what + " throws", got, want);
+    }
+
+    /** The exception's class; but the exception itself if the program's own code did not throw it. */
+    static Object kindOf(RuntimeException e) {
+        StackTraceElement[] trace = e.getStackTrace();
+        boolean own = trace.length > 0 && trace[0].getClassName().equals("ClauseShop");
+        return own ? e.getClass() : e;
     }
 
     void argument(String what, Runnable call) {

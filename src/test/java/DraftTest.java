@@ -103,19 +103,8 @@ public final class DraftTest {
         CHECKS.equal("so the other side makes it two", shop.sign(same, 1), 1);
 
         for (int side = 0; side < 2; side++) {
-            int changed = shop.begin();
-            Shops.agree(shop, changed, 0);
-            shop.sign(changed, 0);
-            shop.mark(changed, side, 0, 2);
-            shop.mark(changed, side, 0, 1);
-            CHECKS.isTrue("a mark that changed takes the signature", Shops.hasNoSignature(shop, changed));
-
-            int more = shop.begin();
-            Shops.agree(shop, more, 0);
-            shop.sign(more, 0);
-            shop.mark(more, side, 1, 1);
-            shop.mark(more, side, 1, 2);
-            CHECKS.isTrue("an item that came and went takes it too", Shops.hasNoSignature(shop, more));
+            markTakesSignature(shop, side, 0);
+            markTakesSignature(shop, side, 1);
         }
 
         int refused = shop.begin();
@@ -124,6 +113,23 @@ public final class DraftTest {
         CHECKS.state("out without an item", () -> shop.mark(refused, 0, 5, 2));
         CHECKS.argument("a wrong mark", () -> shop.mark(refused, 0, 0, 3));
         CHECKS.equal("a refused mark leaves the signature", shop.sign(refused, 0), 1);
+    }
+
+    private static void markTakesSignature(ClauseShop shop, int side, int signer) {
+        String who = ": side " + side + " marks, side " + signer + " had signed";
+        int changed = shop.begin();
+        Shops.agree(shop, changed, 0);
+        shop.sign(changed, signer);
+        shop.mark(changed, side, 0, 2);
+        shop.mark(changed, side, 0, 1);
+        CHECKS.isTrue("a mark that changed" + who, Shops.hasNoSignature(shop, changed, signer));
+
+        int more = shop.begin();
+        Shops.agree(shop, more, 0);
+        shop.sign(more, signer);
+        shop.mark(more, side, 1, 1);
+        shop.mark(more, side, 1, 2);
+        CHECKS.isTrue("an item that came and went" + who, Shops.hasNoSignature(shop, more, signer));
     }
 
     private static void promise6MarkRefused() {
@@ -190,14 +196,17 @@ public final class DraftTest {
 
     private static void promise7RenewAndSignatures() {
         ClauseShop shop = Shops.stocked(1, 1, 1);
-        int draft = shop.begin();
-        Shops.agree(shop, draft, 0);
-        shop.sign(draft, 0);
-        shop.issue(0, 0, 2, 2, 2);
-        CHECKS.state("the signature stands as long as the item does", () -> shop.sign(draft, 0));
-        shop.renew(draft, 0, 0);
-        shop.mark(draft, 1, 0, 1);
-        CHECKS.isTrue("renew takes the signature", Shops.hasNoSignature(shop, draft));
+        for (int signer = 0; signer < 2; signer++) {
+            int draft = shop.begin();
+            Shops.agree(shop, draft, 0);
+            shop.sign(draft, signer);
+            shop.issue(0, 0, 2, 2, 2);
+            int again = signer;
+            CHECKS.state("the signature stands as long as the item does", () -> shop.sign(draft, again));
+            shop.renew(draft, 0, 0);
+            shop.mark(draft, 1, 0, 1);
+            CHECKS.isTrue("renew takes the signature", Shops.hasNoSignature(shop, draft, signer));
+        }
 
         int kept = shop.begin();
         Shops.agree(shop, kept, 0);

@@ -30,7 +30,11 @@ final class Shops {
     }
 
     /** Whether both sides have to sign before duties come of the draft, so that no signature stands. */
-    static boolean hasNoSignature(ClauseShop shop, int contract) {
-        return shop.sign(contract, 0) == 0 && shop.sign(contract, 1) > 0;
+    static boolean hasNoSignature(ClauseShop shop, int contract, int signer) {
+        try {
+            return shop.sign(contract, signer) == 0 && shop.sign(contract, 1 - signer) > 0;
+        } catch (IllegalStateException e) {
+            return false;
+        }
     }
 }

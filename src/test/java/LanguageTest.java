@@ -1,0 +1,75 @@
+import java.io.IOException;
+import java.nio.file.Files;
+import java.nio.file.Path;
+import java.util.List;
+import java.util.regex.Matcher;
+import java.util.regex.Pattern;
+
+/** What of ../shared/LANGUAGE.md can be read off the text of the program; run from the project's own folder. */
+public final class LanguageTest {
+    private static final Checks CHECKS = new Checks("LanguageTest");
+    private static final Path SOURCE = Path.of("src/main/java/ClauseShop.java");
+    private static final int LONGEST_METHOD = 60;
+
+    private static final String[] RULED_OUT = {
+        "->", "::", "\\bpackage\\b", "\\bsynchronized\\b", "\\bassert\\b", "\\bfinally\\b", "\\bcatch\\b",
+        "\\binstanceof\\b", "\\bSystem\\.(?!arraycopy\\b)", "\\bThread\\b", "\\bRandom\\b", "\\bException\\b",
+        "\\bThrowable\\b", "\\bhashCode\\b", "\\btoString\\b", "\\bequals\\b", "\\bObject\\b", "Exact\\b",
+        "\\bstatic\\s*\\{", "\\bprotected\\b",
+    };
+    private static final List<String> THROWN = List.of("IllegalStateException", "IllegalArgumentException",
+            "IndexOutOfBoundsException");
+
+    public static void main(String[] args) throws IOException {
+        String code = bare(Files.readString(SOURCE));
+        for (String ruledOut : RULED_OUT) {
+            CHECKS.isTrue("nothing like " + ruledOut, !Pattern.compile(ruledOut).matcher(code).find());
+        }
+        imports(code);
+        thrown(code);
+        staticFields(code);
+        methodLengths(code);
+        CHECKS.finish();
+    }
+
+    /** The code without comments, and with no signs in its texts. */
+    private static String bare(String source) {
+        return source.replaceAll("(?s)/\\*.*?\\*/", "").replaceAll("//[^\n]*", "").replaceAll("\"[^\"\n]*\"", "\"\"");
+    }
+
+    private static void imports(String code) {
+        Matcher matcher = Pattern.compile("\\bimport\\s+([^;]+);").matcher(code);
+        while (matcher.find()) {
+            CHECKS.isTrue("import of " + matcher.group(1), List.of("java.util.ArrayList").contains(matcher.group(1)));
+        }
+    }
+
+    private static void thrown(String code) {
+        Matcher matcher = Pattern.compile("\\bthrow\\b\\s*(new\\s+)?(\\w+)").matcher(code);
+        while (matcher.find()) {
+            CHECKS.isTrue("throw of " + matcher.group(2), matcher.group(1) != null && THROWN.contains(matcher.group(2)));
+        }
+    }
+
+    private static void staticFields(String code) {
+        Matcher matcher = Pattern.compile("\\bstatic\\s+(?!final\\b|class\\b)[\\w\\[\\]<>]+\\s+\\w+\\s*[=;]").matcher(code);
+        CHECKS.isTrue("static fields are final", !matcher.find());
+    }
+
+    private static void methodLengths(String code) {
+        String[] lines = code.split("\n");
+        int start = -1;
+        String end = "";
+        for (int i = 0; i < lines.length; i++) {
+            String indent = lines[i].substring(0, lines[i].length() - lines[i].stripLeading().length());
+            if (start < 0 && lines[i].matches("\\s+[^=;]*\\(.*") && !lines[i].contains(";")) {
+                start = i;
+                end = indent + "}";
+            } else if (start >= 0 && lines[i].equals(end)) {
+                CHECKS.isTrue("method at line of code " + start + " is short", i - start < LONGEST_METHOD);
+                start = -1;
+            }
+        }
+        CHECKS.equal("every method has its end", start, -1);
+    }
+}
