@@ -35,7 +35,7 @@ final class Checks {
     /** The exception's class; but the exception itself if the program's own code did not throw it. */
     static Object kindOf(RuntimeException e) {
         StackTraceElement[] trace = e.getStackTrace();
-        boolean own = trace.length > 0 && trace[0].getClassName().equals("ClauseShop");
+        boolean own = trace.length > 0 && trace[0].getClassName().split("\\$")[0].equals("ClauseShop");
         return own ? e.getClass() : e;
     }
 

@@ -1,26 +1,20 @@
-/** Promises 5 to 11. */
+/** Promises 5 to 11 with ordinary calls; DraftEdges has the edges of each sentence. */
 public final class DraftTest {
     private static final Checks CHECKS = new Checks("DraftTest");
-    private static final int[] WRONG_CLAUSES = {-1, 10, Integer.MIN_VALUE, Integer.MAX_VALUE};
-    private static final int[] WRONG_SIDES = {-1, 2, Integer.MIN_VALUE, Integer.MAX_VALUE};
-    private static final int[] WRONG_CONTRACTS = {-1, 1, 10, Integer.MIN_VALUE, Integer.MAX_VALUE};
 
     public static void main(String[] args) {
         promise5Begin();
         promise6Mark();
         promise6MarkTakesOut();
         promise6MarkAndSignatures();
-        promise6MarkRefused();
         promise7Renew();
         promise7RenewAndSignatures();
-        promise7RenewRefused();
         promise8Version();
         promise9Offered();
         promise10WhyNot();
-        promise10WhyNotOverAllClauses();
         promise11Sign();
         promise11SignMakesDuties();
-        promise11SignRefused();
+        promise11SignAndRelations();
         CHECKS.finish();
     }
 
@@ -132,36 +126,6 @@ public final class DraftTest {
         CHECKS.isTrue("an item that came and went" + who, Shops.hasNoSignature(shop, more, signer));
     }
 
-    private static void promise6MarkRefused() {
-        ClauseShop shop = new ClauseShop();
-        shop.issue(0, 0, 1, 1, 1);
-        int draft = shop.begin();
-        for (int contract : WRONG_CONTRACTS) {
-            CHECKS.index("mark in contract " + contract, () -> shop.mark(contract, 0, 0, 1));
-            CHECKS.index("the contract comes first", () -> shop.mark(contract, 2, 10, 3));
-        }
-        for (int side : WRONG_SIDES) {
-            CHECKS.argument("mark of side " + side, () -> shop.mark(draft, side, 0, 1));
-        }
-        for (int clause : WRONG_CLAUSES) {
-            CHECKS.argument("mark on clause " + clause, () -> shop.mark(draft, 0, clause, 1));
-        }
-        for (int mark : new int[] {-1, 0, 3, Integer.MIN_VALUE, Integer.MAX_VALUE}) {
-            CHECKS.argument("mark " + mark, () -> shop.mark(draft, 0, 0, mark));
-            CHECKS.argument("ahead of a clause that is not there", () -> shop.mark(draft, 0, 1, mark));
-        }
-        CHECKS.state("out without an item", () -> shop.mark(draft, 0, 0, 2));
-        CHECKS.state("in without a version", () -> shop.mark(draft, 0, 1, 1));
-        CHECKS.state("out without a version", () -> shop.mark(draft, 0, 1, 2));
-        CHECKS.equal("nothing came of it", shop.whyNot(draft), 2);
-
-        int contract = Shops.signed(shop, 0);
-        CHECKS.state("mark in a signed contract", () -> shop.mark(contract, 0, 0, 2));
-        CHECKS.state("even one that stays", () -> shop.mark(contract, 0, 0, 1));
-        CHECKS.argument("wrong ones come first there too", () -> shop.mark(contract, 0, 0, 0));
-        CHECKS.equal("its item stands", shop.version(contract, 0), 1);
-    }
-
     private static void promise7Renew() {
         ClauseShop shop = Shops.stocked(1, 1, 1);
         for (int side = 0; side < 2; side++) {
@@ -215,47 +179,9 @@ public final class DraftTest {
         CHECKS.equal("leaves the signature", shop.sign(kept, 1), 1);
     }
 
-    private static void promise7RenewRefused() {
-        ClauseShop shop = Shops.stocked(1, 1, 1);
-        int draft = shop.begin();
-        shop.mark(draft, 0, 0, 1);
-        for (int contract : WRONG_CONTRACTS) {
-            CHECKS.index("renew in contract " + contract, () -> shop.renew(contract, 0, 0));
-            CHECKS.index("the contract comes first", () -> shop.renew(contract, 2, 10));
-        }
-        for (int side : WRONG_SIDES) {
-            CHECKS.argument("renew by side " + side, () -> shop.renew(draft, side, 0));
-        }
-        for (int clause : WRONG_CLAUSES) {
-            CHECKS.argument("renew of clause " + clause, () -> shop.renew(draft, 0, clause));
-        }
-        CHECKS.state("renew of the latest", () -> shop.renew(draft, 0, 0));
-        CHECKS.state("renew without an item", () -> shop.renew(draft, 0, 1));
-        CHECKS.state("renew without a version", () -> {
-            ClauseShop empty = new ClauseShop();
-            empty.renew(empty.begin(), 0, 0);
-        });
-        shop.mark(draft, 0, 0, 2);
-        shop.issue(0, 0, 2, 2, 2);
-        CHECKS.state("renew of an item that is no more", () -> shop.renew(draft, 0, 0));
-
-        int contract = Shops.signed(shop, 0);
-        shop.issue(0, 0, 3, 3, 3);
-        CHECKS.state("renew in a signed contract", () -> shop.renew(contract, 0, 0));
-        CHECKS.argument("wrong ones come first there too", () -> shop.renew(contract, 2, 0));
-        CHECKS.equal("its version stands", shop.version(contract, 0), 2);
-    }
-
     private static void promise8Version() {
         ClauseShop shop = Shops.stocked(1, 1, 1);
         int draft = shop.begin();
-        for (int contract : WRONG_CONTRACTS) {
-            CHECKS.index("version in contract " + contract, () -> shop.version(contract, 0));
-            CHECKS.index("the contract comes first", () -> shop.version(contract, 10));
-        }
-        for (int clause : WRONG_CLAUSES) {
-            CHECKS.argument("version of clause " + clause, () -> shop.version(draft, clause));
-        }
         for (int clause = 0; clause < 10; clause++) {
             CHECKS.equal("no item", shop.version(draft, clause), 0);
         }
@@ -272,9 +198,6 @@ public final class DraftTest {
     private static void promise9Offered() {
         ClauseShop shop = Shops.stocked(1, 1, 1);
         int draft = shop.begin();
-        for (int contract : WRONG_CONTRACTS) {
-            CHECKS.index("offered in contract " + contract, () -> shop.offered(contract));
-        }
         CHECKS.equal("of no items", shop.offered(draft), 0);
         for (int clause = 0; clause < 10; clause++) {
             shop.mark(draft, clause % 2, clause, 1);
@@ -303,9 +226,6 @@ public final class DraftTest {
     private static void promise10WhyNot() {
         ClauseShop shop = Shops.stocked(1, 1, 1);
         int draft = shop.begin();
-        for (int contract : WRONG_CONTRACTS) {
-            CHECKS.index("whyNot of contract " + contract, () -> shop.whyNot(contract));
-        }
         CHECKS.equal("no item", shop.whyNot(draft), 2);
         shop.relate(0, 2 + 4, 8);
         shop.mark(draft, 1, 0, 1);
@@ -332,33 +252,6 @@ public final class DraftTest {
         CHECKS.equal("no draft", shop.whyNot(draft), 1);
         shop.relate(0, 1022, 0);
         CHECKS.equal("no draft comes first", shop.whyNot(draft), 1);
-    }
-
-    private static void promise10WhyNotOverAllClauses() {
-        for (int clause = 0; clause < 10; clause++) {
-            for (int other = 0; other < 10; other++) {
-                if (clause != other) {
-                    whyNotOfTwo(clause, other);
-                }
-            }
-        }
-    }
-
-    private static void whyNotOfTwo(int clause, int other) {
-        ClauseShop shop = Shops.stocked(1, 1, 1);
-        int draft = shop.begin();
-        Shops.agree(shop, draft, clause);
-        String pair = clause + " and " + other;
-        shop.relate(clause, 1 << other, 0);
-        CHECKS.equal("needed and missing: " + pair, shop.whyNot(draft), 4);
-        shop.relate(clause, 0, 1 << other);
-        CHECKS.equal("forbidden and missing: " + pair, shop.whyNot(draft), 0);
-        Shops.agree(shop, draft, other);
-        CHECKS.equal("forbidden and there: " + pair, shop.whyNot(draft), 5);
-        shop.relate(clause, 1 << other, 0);
-        CHECKS.equal("needed and there: " + pair, shop.whyNot(draft), 0);
-        shop.relate(clause, 1 << other, 1 << other);
-        CHECKS.equal("needed, forbidden and there: " + pair, shop.whyNot(draft), 5);
     }
 
     private static void promise11Sign() {
@@ -403,31 +296,15 @@ public final class DraftTest {
         }
     }
 
-    private static void promise11SignRefused() {
+    private static void promise11SignAndRelations() {
         ClauseShop shop = Shops.stocked(1, 1, 1);
         int draft = shop.begin();
-        for (int contract : WRONG_CONTRACTS) {
-            CHECKS.index("sign of contract " + contract, () -> shop.sign(contract, 0));
-            CHECKS.index("the contract comes first", () -> shop.sign(contract, 2));
-        }
-        for (int side : WRONG_SIDES) {
-            CHECKS.argument("sign by side " + side, () -> shop.sign(draft, side));
-        }
-        CHECKS.state("sign of no item", () -> shop.sign(draft, 0));
-        shop.mark(draft, 0, 0, 1);
-        CHECKS.state("sign of what is not agreed", () -> shop.sign(draft, 0));
-        shop.mark(draft, 1, 0, 1);
-        shop.relate(0, 2, 0);
-        CHECKS.state("sign without what is needed", () -> shop.sign(draft, 0));
+        Shops.agree(shop, draft, 0);
         Shops.agree(shop, draft, 1);
-        shop.relate(0, 0, 2);
-        CHECKS.state("sign with what is forbidden", () -> shop.sign(draft, 0));
-        shop.relate(0, 0, 0);
         shop.sign(draft, 0);
         shop.relate(0, 4, 0);
         CHECKS.state("a relation that came meanwhile counts", () -> shop.sign(draft, 1));
         shop.relate(0, 0, 0);
         CHECKS.equal("but takes no signature", shop.sign(draft, 1), 2);
-        CHECKS.argument("wrong ones come first there too", () -> shop.sign(draft, 2));
     }
 }

@@ -1,11 +1,8 @@
-/** Promises 12 to 20. */
+/** Promises 12 to 20 with ordinary calls; DutyEdges has the edges of each sentence. */
 public final class DutyTest {
     private static final Checks CHECKS = new Checks("DutyTest");
-    private static final int[] WRONG_DUTIES = {-1, 2, 100, Integer.MIN_VALUE, Integer.MAX_VALUE};
 
     public static void main(String[] args) {
-        promise12PassRange();
-        promise12PassLastDay();
         promise12PassBreaches();
         promise12PassPutsOff();
         promise12PassOnTheSameDay();
@@ -21,15 +18,7 @@ public final class DutyTest {
         promise18Notice();
         promise19Settle();
         promise20Owes();
-        noSuchDuty();
         CHECKS.finish();
-    }
-
-    /** Duty 0 binds side 0 and duty 1 binds side 1, both from the first day on. */
-    private static ClauseShop two(int days, int cure, int penalty) {
-        ClauseShop shop = Shops.stocked(days, cure, penalty);
-        Shops.signed(shop, 0, 1);
-        return shop;
     }
 
     /** Lets the duty of a shop of two come to its breach, with no cure. */
@@ -38,42 +27,8 @@ public final class DutyTest {
         shop.pass(1);
     }
 
-    private static void promise12PassRange() {
-        ClauseShop shop = two(50, 0, 1);
-        for (int days : new int[] {0, -1, 101, Integer.MIN_VALUE, Integer.MAX_VALUE}) {
-            CHECKS.argument("pass(" + days + ")", () -> shop.pass(days));
-        }
-        CHECKS.equal("pass(1)", shop.pass(1), 0);
-        shop.perform(0);
-        CHECKS.equal("one day", shop.day(0), 1);
-        CHECKS.equal("pass(100)", shop.pass(100), 0);
-        shop.perform(1);
-        CHECKS.equal("a hundred days more", shop.day(1), 101);
-    }
-
-    private static void promise12PassLastDay() {
-        ClauseShop shop = two(0, 0, 1);
-        for (int i = 0; i < 99; i++) {
-            shop.pass(100);
-        }
-        CHECKS.state("later than 9999", () -> shop.pass(100));
-        CHECKS.argument("out of range comes first", () -> shop.pass(101));
-        CHECKS.equal("to 9999", shop.pass(99), 0);
-        CHECKS.state("one day more", () -> shop.pass(1));
-        CHECKS.equal("notice on the last day", shop.notice(0), 9999);
-        CHECKS.state("nor then", () -> shop.pass(1));
-        CHECKS.equal("a refused day breaches nothing", shop.state(0), ClauseShop.NOTICED);
-        shop.perform(1);
-        CHECKS.equal("the last day", shop.day(1), 9999);
-        Shops.signed(shop, 2);
-        CHECKS.equal("a term on the last day", shop.day(2), 9999);
-        shop.issue(4, 0, 100, 50, 1);
-        Shops.signed(shop, 4);
-        CHECKS.equal("a term may be later than the last day", shop.day(3), 10099);
-    }
-
     private static void promise12PassBreaches() {
-        ClauseShop shop = two(0, 3, 1);
+        ClauseShop shop = Shops.twoDuties(0, 3, 1);
         shop.pass(1);
         shop.notice(0);
         CHECKS.equal("till the end of the cure", shop.pass(3), 0);
@@ -84,13 +39,13 @@ public final class DutyTest {
         CHECKS.equal("once", shop.pass(10), 0);
         CHECKS.equal("an open duty is not breached without notice", shop.state(1), ClauseShop.OPEN);
 
-        ClauseShop cured = two(0, 3, 1);
+        ClauseShop cured = Shops.twoDuties(0, 3, 1);
         cured.pass(1);
         cured.notice(0);
         cured.perform(0);
         CHECKS.equal("a duty that was done is not breached", cured.pass(100), 0);
 
-        ClauseShop within = two(0, 3, 1);
+        ClauseShop within = Shops.twoDuties(0, 3, 1);
         within.pass(1);
         within.notice(0);
         CHECKS.equal("in the middle of many days", within.pass(50), 1);
@@ -98,7 +53,7 @@ public final class DutyTest {
     }
 
     private static void promise12PassPutsOff() {
-        ClauseShop shop = two(0, 0, 1);
+        ClauseShop shop = Shops.twoDuties(0, 0, 1);
         shop.issue(0, 0, 90, 7, 1);
         shop.issue(2, 0, 1, 7, 1);
         shop.issue(3, 1, 80, 7, 1);
@@ -125,7 +80,7 @@ public final class DutyTest {
     }
 
     private static void promise12PassOnTheSameDay() {
-        ClauseShop shop = two(0, 2, 1);
+        ClauseShop shop = Shops.twoDuties(0, 2, 1);
         shop.pass(1);
         shop.notice(0);
         shop.notice(1);
@@ -134,7 +89,7 @@ public final class DutyTest {
         CHECKS.equal("the first", shop.day(0), 4);
         CHECKS.equal("the second", shop.day(1), 4);
 
-        ClauseShop uneven = two(0, 2, 1);
+        ClauseShop uneven = Shops.twoDuties(0, 2, 1);
         uneven.pass(1);
         uneven.notice(1);
         uneven.pass(1);
@@ -146,7 +101,7 @@ public final class DutyTest {
     }
 
     private static void promise12PassWithinOneCall() {
-        ClauseShop shop = two(0, 2, 1);
+        ClauseShop shop = Shops.twoDuties(0, 2, 1);
         shop.issue(2, 0, 30, 1, 1);
         Shops.signed(shop, 1, 2);
         shop.pass(1);
@@ -170,7 +125,7 @@ public final class DutyTest {
     }
 
     private static void promise12PassReleases() {
-        ClauseShop shop = two(0, 0, 1);
+        ClauseShop shop = Shops.twoDuties(0, 0, 1);
         shop.issue(3, 1, 0, 0, 1);
         shop.issue(5, 1, 0, 0, 1);
         shop.issue(0, 0, 70, 0, 1);
@@ -224,7 +179,7 @@ public final class DutyTest {
         CHECKS.equal("NOTICED", ClauseShop.NOTICED, 2);
         CHECKS.equal("BREACHED", ClauseShop.BREACHED, 3);
         CHECKS.equal("SETTLED", ClauseShop.SETTLED, 4);
-        ClauseShop shop = two(0, 0, 1);
+        ClauseShop shop = Shops.twoDuties(0, 0, 1);
         CHECKS.equal("at first", shop.state(0), 0);
         shop.pass(1);
         CHECKS.equal("a late one is open", shop.state(0), 0);
@@ -244,7 +199,7 @@ public final class DutyTest {
     }
 
     private static void promise15Day() {
-        ClauseShop shop = two(5, 2, 1);
+        ClauseShop shop = Shops.twoDuties(5, 2, 1);
         CHECKS.equal("the term", shop.day(0), 5);
         shop.pass(6);
         CHECKS.equal("the term that has gone by", shop.day(0), 5);
@@ -292,7 +247,7 @@ public final class DutyTest {
         shop.settle(1);
         CHECKS.equal("settled again", shop.isSuspended(2), false);
 
-        ClauseShop both = two(0, 0, 1);
+        ClauseShop both = Shops.twoDuties(0, 0, 1);
         both.pass(1);
         both.notice(0);
         both.notice(1);
@@ -304,7 +259,7 @@ public final class DutyTest {
     }
 
     private static void promise16AcrossContracts() {
-        ClauseShop shop = two(0, 0, 1);
+        ClauseShop shop = Shops.twoDuties(0, 0, 1);
         Shops.signed(shop, 0, 1);
         shop.pass(1);
         breach(shop, 0);
@@ -337,7 +292,7 @@ public final class DutyTest {
     }
 
     private static void promise17PerformWhenSuspended() {
-        ClauseShop shop = two(0, 0, 1);
+        ClauseShop shop = Shops.twoDuties(0, 0, 1);
         shop.issue(2, 0, 2, 30, 1);
         Shops.signed(shop, 1, 2);
         shop.pass(1);
@@ -347,7 +302,7 @@ public final class DutyTest {
         CHECKS.equal("its term was put off", shop.perform(3), false);
         CHECKS.equal("done all the same", shop.state(3), ClauseShop.DONE);
 
-        ClauseShop last = two(0, 9, 1);
+        ClauseShop last = Shops.twoDuties(0, 9, 1);
         last.pass(1);
         last.notice(0);
         last.pass(9);
@@ -356,7 +311,7 @@ public final class DutyTest {
     }
 
     private static void promise18Notice() {
-        ClauseShop shop = two(4, 6, 1);
+        ClauseShop shop = Shops.twoDuties(4, 6, 1);
         CHECKS.state("ahead of the term", () -> shop.notice(0));
         shop.pass(4);
         CHECKS.state("on the term", () -> shop.notice(0));
@@ -375,7 +330,7 @@ public final class DutyTest {
         shop.settle(1);
         CHECKS.state("of what is settled", () -> shop.notice(1));
 
-        ClauseShop held = two(0, 8, 1);
+        ClauseShop held = Shops.twoDuties(0, 8, 1);
         held.issue(0, 0, 3, 8, 1);
         held.issue(1, 1, 0, 0, 1);
         Shops.signed(held, 0, 1);
@@ -385,7 +340,7 @@ public final class DutyTest {
         CHECKS.state("a term that is put off can't be gone by", () -> held.notice(2));
         CHECKS.equal("its term", held.day(2), 23);
 
-        ClauseShop late = two(0, 8, 1);
+        ClauseShop late = Shops.twoDuties(0, 8, 1);
         late.issue(1, 1, 0, 0, 1);
         Shops.signed(late, 0, 1);
         late.pass(1);
@@ -431,11 +386,6 @@ public final class DutyTest {
         }
         int contract = Shops.signed(shop, 0, 1, 2, 3);
         int other = shop.begin();
-        for (int wrong : new int[] {-1, 2, Integer.MIN_VALUE, Integer.MAX_VALUE}) {
-            CHECKS.index("owes of contract " + wrong, () -> shop.owes(wrong, 0));
-            CHECKS.index("the contract comes first", () -> shop.owes(wrong, 2));
-            CHECKS.argument("owes of side " + wrong, () -> shop.owes(contract, wrong));
-        }
         shop.pass(1);
         owing(shop, contract, 0, 0);
         shop.notice(0);
@@ -467,7 +417,7 @@ public final class DutyTest {
     }
 
     private static int evenContract() {
-        ClauseShop shop = two(0, 0, 250);
+        ClauseShop shop = Shops.twoDuties(0, 0, 250);
         shop.pass(1);
         shop.notice(0);
         shop.notice(1);
@@ -479,15 +429,4 @@ public final class DutyTest {
         return owed;
     }
 
-    private static void noSuchDuty() {
-        ClauseShop shop = two(1, 1, 1);
-        for (int duty : WRONG_DUTIES) {
-            CHECKS.index("promise 14: state(" + duty + ")", () -> shop.state(duty));
-            CHECKS.index("promise 15: day(" + duty + ")", () -> shop.day(duty));
-            CHECKS.index("promise 16: isSuspended(" + duty + ")", () -> shop.isSuspended(duty));
-            CHECKS.index("promise 17: perform(" + duty + ")", () -> shop.perform(duty));
-            CHECKS.index("promise 18: notice(" + duty + ")", () -> shop.notice(duty));
-            CHECKS.index("promise 19: settle(" + duty + ")", () -> shop.settle(duty));
-        }
-    }
 }

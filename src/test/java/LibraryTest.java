@@ -1,16 +1,12 @@
-/** Promises 1 to 4. */
+/** Promises 1 to 4 with ordinary calls; LibraryEdges has the edges of each sentence. */
 public final class LibraryTest {
     private static final Checks CHECKS = new Checks("LibraryTest");
-    private static final int[] WRONG_CLAUSES = {-1, 10, Integer.MIN_VALUE, Integer.MAX_VALUE};
 
     public static void main(String[] args) {
         promise1NewObject();
         promise2Issue();
-        promise2IssueOutOfRange();
-        promise2IssueTooMany();
         promise2IssueKeepsItsTerms();
         promise3Relate();
-        promise3RelateOutOfRange();
         promise4Latest();
         CHECKS.finish();
     }
@@ -37,37 +33,6 @@ public final class LibraryTest {
         CHECKS.equal("latest(0)", shop.latest(0), 2);
         CHECKS.equal("latest(9)", shop.latest(9), 1);
         CHECKS.equal("latest(1)", shop.latest(1), 0);
-    }
-
-    private static void promise2IssueOutOfRange() {
-        ClauseShop shop = new ClauseShop();
-        for (int clause : WRONG_CLAUSES) {
-            CHECKS.argument("issue of clause " + clause, () -> shop.issue(clause, 0, 1, 1, 1));
-        }
-        for (int obligor : new int[] {-1, 2, Integer.MIN_VALUE, Integer.MAX_VALUE}) {
-            CHECKS.argument("issue for side " + obligor, () -> shop.issue(0, obligor, 1, 1, 1));
-        }
-        for (int days : new int[] {-1, 101, Integer.MIN_VALUE, Integer.MAX_VALUE}) {
-            CHECKS.argument("issue with days " + days, () -> shop.issue(0, 0, days, 1, 1));
-        }
-        for (int cure : new int[] {-1, 51, Integer.MIN_VALUE, Integer.MAX_VALUE}) {
-            CHECKS.argument("issue with cure " + cure, () -> shop.issue(0, 0, 1, cure, 1));
-        }
-        for (int penalty : new int[] {-1, 1001, Integer.MIN_VALUE, Integer.MAX_VALUE}) {
-            CHECKS.argument("issue with penalty " + penalty, () -> shop.issue(0, 0, 1, 1, penalty));
-        }
-        CHECKS.equal("no version came of it", shop.latest(0), 0);
-    }
-
-    private static void promise2IssueTooMany() {
-        ClauseShop shop = new ClauseShop();
-        for (int number = 1; number <= 9; number++) {
-            CHECKS.equal("version", shop.issue(4, 0, 1, 1, 1), number);
-        }
-        CHECKS.state("a tenth version", () -> shop.issue(4, 0, 1, 1, 1));
-        CHECKS.argument("a tenth version out of range", () -> shop.issue(4, 0, 1, 1, 1001));
-        CHECKS.equal("latest(4)", shop.latest(4), 9);
-        CHECKS.equal("another clause still has room", shop.issue(5, 0, 1, 1, 1), 1);
     }
 
     private static void promise2IssueKeepsItsTerms() {
@@ -102,34 +67,8 @@ public final class LibraryTest {
         CHECKS.equal("a needed clause", shop.whyNot(draft), 0);
     }
 
-    private static void promise3RelateOutOfRange() {
-        ClauseShop shop = new ClauseShop();
-        for (int clause : WRONG_CLAUSES) {
-            CHECKS.argument("relate of clause " + clause, () -> shop.relate(clause, 0, 0));
-        }
-        for (int set : new int[] {-1, 1024, Integer.MIN_VALUE, Integer.MAX_VALUE, -1024}) {
-            CHECKS.argument("relate with needs " + set, () -> shop.relate(2, set, 0));
-            CHECKS.argument("relate with forbids " + set, () -> shop.relate(2, 0, set));
-        }
-        for (int i = 0; i < 10; i++) {
-            int clause = i;
-            CHECKS.argument("needs itself: " + i, () -> shop.relate(clause, 1 << clause, 0));
-            CHECKS.argument("forbids itself: " + i, () -> shop.relate(clause, 0, 1 << clause));
-            CHECKS.argument("needs itself too: " + i, () -> shop.relate(clause, 1023, 0));
-            CHECKS.argument("forbids itself too: " + i, () -> shop.relate(clause, 0, 1023));
-        }
-        shop.issue(2, 0, 1, 1, 1);
-        int draft = shop.begin();
-        Shops.agree(shop, draft, 2);
-        CHECKS.argument("needs one, forbids itself", () -> shop.relate(2, 1, 4));
-        CHECKS.equal("a refused call sets neither", shop.whyNot(draft), 0);
-    }
-
     private static void promise4Latest() {
         ClauseShop shop = new ClauseShop();
-        for (int clause : WRONG_CLAUSES) {
-            CHECKS.argument("latest(" + clause + ")", () -> shop.latest(clause));
-        }
         CHECKS.equal("latest of none", shop.latest(6), 0);
         shop.issue(6, 0, 1, 1, 1);
         CHECKS.equal("latest of one", shop.latest(6), 1);
