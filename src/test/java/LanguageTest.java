@@ -1,6 +1,11 @@
 import java.io.IOException;
+import java.lang.reflect.Constructor;
+import java.lang.reflect.Field;
+import java.lang.reflect.Method;
+import java.lang.reflect.Modifier;
 import java.nio.file.Files;
 import java.nio.file.Path;
+import java.util.ArrayList;
 import java.util.List;
 import java.util.regex.Matcher;
 import java.util.regex.Pattern;
@@ -9,14 +14,15 @@ import java.util.regex.Pattern;
 public final class LanguageTest {
     private static final Checks CHECKS = new Checks("LanguageTest");
     private static final Path SOURCE = Path.of("src/main/java/ClauseShop.java");
-    private static final int LONGEST_METHOD = 60;
+    /** Of rule 11. */
+    private static final int LONGEST_METHOD = 60, MOST_PARAMETERS = 7, MOST_CLASSES = 12, MOST_FIELDS = 20;
 
     private static final String[] RULED_OUT = {
         "->", "::", "\\bpackage\\b", "\\bsynchronized\\b", "\\bassert\\b", "\\bfinally\\b",
         "\\bSystem\\.(?!arraycopy\\b)", "\\bThread\\b", "\\bRandom\\b", "\\bException\\b", "\\bThrowable\\b",
         "\\bNullPointerException\\b", "\\bClassCastException\\b", "\\bNegativeArraySizeException\\b",
         "\\bArrayStoreException\\b", "\\bArrayIndexOutOfBoundsException\\b", "\\bhashCode\\b",
-        "\\bObject\\b", "Exact\\b", "\\bstatic\\s*\\{", "\\bprotected\\b",
+        "\\bObject\\b", "Exact\\b", "\\bstatic\\s*\\{", "\\bprotected\\b", "\"\"\\s*\\+", "\\+=?\\s*\"\"",
     };
     private static final List<String> IMPORTED = List.of("java.util.ArrayList", "java.util.List", "java.util.Arrays",
             "java.util.Iterator", "java.util.NoSuchElementException");
@@ -33,6 +39,7 @@ public final class LanguageTest {
         thrown(code);
         staticFields(code);
         methodLengths(code);
+        sizes();
         CHECKS.finish();
     }
 
@@ -76,5 +83,25 @@ public final class LanguageTest {
             }
         }
         CHECKS.equal("every method has its end", start, -1);
+    }
+
+    private static void sizes() {
+        List<Class<?>> classes = new ArrayList<>(List.of(ClauseShop.class.getDeclaredClasses()));
+        classes.add(ClauseShop.class);
+        CHECKS.isTrue("classes are few", classes.size() <= MOST_CLASSES);
+        for (Class<?> one : classes) {
+            int fields = 0;
+            for (Field field : one.getDeclaredFields()) {
+                fields += Modifier.isStatic(field.getModifiers()) ? 0 : 1;
+            }
+            CHECKS.isTrue("fields of " + one + " are few", fields <= MOST_FIELDS);
+            for (Method method : one.getDeclaredMethods()) {
+                CHECKS.isTrue("parameters of " + method + " are few", method.getParameterCount() <= MOST_PARAMETERS);
+            }
+            for (Constructor<?> constructor : one.getDeclaredConstructors()) {
+                boolean few = constructor.getParameterCount() <= MOST_PARAMETERS;
+                CHECKS.isTrue("parameters of " + constructor + " are few", few);
+            }
+        }
     }
 }
